@@ -605,6 +605,9 @@ public final class ModelTest {
 
     /** One object and its model, through a random run. */
     static final class Run {
+        /** Rooms in which best ways go round for ever. */
+        static final String[] NO_REST = {"p7127;p6112;p8001;t4;t5;l0;m1", "p9216;p7226;t6;l0;m0",
+            "p9114;p7015;p5219;p8005;t3;t7;t6;l2;m0", "p7226;p5013;p8216;p7125;t6;t6;t4;t3;l1;m1", "p9227;p5118;t9;l1;m0"};
         final Random random;
         final int number;
         final LaughsLast x = new LaughsLast();
@@ -628,6 +631,10 @@ public final class ModelTest {
 
         void room() {
             StringBuilder text = new StringBuilder();
+            if (number < NO_REST.length) {
+                begin(NO_REST[number]);
+                return;
+            }
             int people = random.nextInt(12) == 0 ? 0 : 1 + random.nextInt(4);
             if (number % 3 == 0) {
                 people = 2;
@@ -641,6 +648,10 @@ public final class ModelTest {
                 text.append('t').append(figure()).append(';');
             }
             text.append('l').append(random.nextInt(3)).append(";m").append(random.nextInt(3)).append(";o").append(random.nextInt(4));
+            begin(text);
+        }
+
+        void begin(CharSequence text) {
             same("wipe", x.wipe(), m.text.length());
             m.text.setLength(0);
             for (int k = 0; k < text.length(); k++) {
