@@ -100,6 +100,20 @@ public final class RoomEdgesTest {
         }
     }
 
+    /** Promise 3: "THE ROOM is empty" */
+    static void typedAgainBehindWipe() {
+        String[] rooms = {"p9219;p5134;p7012;p8888;t9;t4;t6;t8;l2;m2;o3", "p9219;t9", "p9219;p5134;t0", "t5", "p1234", "l1", ""};
+        for (String first : rooms) {
+            for (String then : rooms) {
+                LaughsLast x = Edges.busy(first);
+                x.digest();
+                x.wipe();
+                Edges.type(x, then);
+                Edges.alike(then + " behind " + first, x, Edges.busy(then));
+            }
+        }
+    }
+
     /** Promise 4: "The FAULT; NONE." Terms 1: "an empty text is well" */
     static void anEmptyTextIsWell() {
         Edges.due("fault of an empty text", new LaughsLast().fault(), Edges.NONE);

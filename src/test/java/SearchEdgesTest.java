@@ -192,6 +192,17 @@ public final class SearchEdgesTest {
         order("holds by its place", y, 1, 2, 3, 0);
         y.holds(0, 4);
         order("holds by its place", y, 1, 2, 0, 3);
+        for (String tales : new String[] {"t9", "t9;t8", "t9;t8;t7"}) {
+            LaughsLast some = Edges.in("p9000;p0000;t1;t1;t1;t0");
+            some.wipe();
+            Edges.type(some, "p9000;p0000;o1;" + tales);
+            order("only of the tales that there are", some, new int[] {0, 1, 2}, tales.split(";").length);
+        }
+        LaughsLast two = Edges.in("p4000;p0000;t5;t4;o1");
+        order("the moods go with the order", two, 1, 0);
+        two.wipe();
+        Edges.type(two, "p4000;p0000;t5;o1");
+        order("one tale, behind two", two, 0);
         // Found by a search; the model has gone through it, too.
         order("the last row of all", Edges.in("p5068;p5083;t2;t6;t4;t8;l1;m2;o0"), 3, 2, 1, 0);
     }
@@ -440,6 +451,13 @@ public final class SearchEdgesTest {
         for (int place = 0; place < row.length; place++) {
             Edges.due(call + ": at " + place, x.order(0, place), row[place]);
         }
+    }
+
+    private static void order(String call, LaughsLast x, int[] row, int places) {
+        for (int place = 0; place < places; place++) {
+            Edges.due(call + ": at " + place, x.order(0, place), row[place]);
+        }
+        Edges.due(call + ": no more places", x.order(0, places), Edges.BAD);
     }
 
     private static void hire(String call, LaughsLast x, int p, int ticklish, long above, long below) {

@@ -259,6 +259,21 @@ public final class StrokeEdgesTest {
         Edges.due("both ends come", ended[0] > 0 && ended[1] > 0 ? 1 : 0, 1);
     }
 
+    /** Terms 1: "SEVERAL do: NOBODY: all stays; LEAST: it is the least number's;" Promise 25: "MADE: who OWES it at the end." */
+    static void noLotWhereAllStaysOrTheLeastHasIt() {
+        String[] people = {"p0000;p9000;p0000;p9000", "p0000;p9000;p9000;p9000", "p9000;p9000;p9000;p9000"};
+        int[] least = {1, 1, 0};
+        for (int seed : SEEDS) {
+            for (int k = 0; k < people.length; k++) {
+                for (int owner = 0; owner < 4; owner++) {
+                    String room = people[k] + ";t9;o" + owner;
+                    Edges.due("NOBODY in " + room, Edges.in(room + ";m0").made(seed), owner);
+                    Edges.due("LEAST in " + room, Edges.in(room + ";m1").made(seed), least[k]);
+                }
+            }
+        }
+    }
+
     /** Promise 25: "NOT: no PEOPLE." */
     static void madeOfNobody() {
         for (int seed : SEEDS) {
