@@ -34,6 +34,7 @@ public final class RulesTest {
 
     public static void main(String[] args) throws Exception {
         face();
+        classes();
         source();
         anyArguments();
         objects();
@@ -63,6 +64,7 @@ public final class RulesTest {
             }
         }
         hold(methods.equals(new TreeSet<>(Arrays.asList(FACE.split(";")))), "the face is " + methods);
+        hold(faceOfTheDocument().equals(methods), "the document's face is " + faceOfTheDocument());
         Set<String> fields = new TreeSet<>();
         for (Field f : LaughsLast.class.getDeclaredFields()) {
             if (!Modifier.isPrivate(f.getModifiers())) {
@@ -72,6 +74,48 @@ public final class RulesTest {
         hold(fields.equals(new TreeSet<>(List.of("NONE-1", "BAD-2", "NOT-3", "FULL-4"))), "the constants are " + fields);
         hold(LaughsLast.class.getConstructors().length == 1, "one public constructor");
         hold(Modifier.isFinal(LaughsLast.class.getModifiers()), "final");
+    }
+
+    /** From DOC.md, where each method must stand in the source as it stands there, with the names of its parameters. */
+    private static Set<String> faceOfTheDocument() throws Exception {
+        String document = Files.readString(Path.of("../shared/DOC.md"));
+        String source = Files.readString(Path.of("src/main/java/LaughsLast.java"));
+        int begin = document.indexOf("```java");
+        Set<String> methods = new TreeSet<>();
+        for (String line : document.substring(begin, document.indexOf("```", begin + 3)).split("\n")) {
+            if (!line.startsWith("    ")) {
+                continue;
+            }
+            boolean isMethod = line.matches(" +public (int|long) .*\\);");
+            String asTold = isMethod || line.contains("(") ? line.replace(";", " {") : line;
+            hold(source.contains("\n" + asTold + "\n"), "the source has no line '" + asTold + "'");
+            if (isMethod) {
+                methods.add(line.trim().replace("public ", "").replaceAll("(int|long) \\w+(?=[,)])", "$1").replace(", ", ",").replace(";", ""));
+            }
+        }
+        return methods;
+    }
+
+    /** Rules 1, 2, 5 and 11, of the classes inside, too. */
+    private static void classes() throws Exception {
+        List<Class<?>> all = new ArrayList<>(List.of(LaughsLast.class.getDeclaredClasses()));
+        for (Class<?> c : all) {
+            hold(Modifier.isStatic(c.getModifiers()) && !Modifier.isPublic(c.getModifiers()), "not static, or open: " + c);
+            hold(c.getDeclaredClasses().length == 0, "a class inside a class inside: " + c);
+        }
+        all.add(LaughsLast.class);
+        hold(all.size() > 5 && all.size() <= 12, "classes: " + all.size());
+        Set<Class<?>> constants = Set.of(int.class, long.class, boolean.class, char.class, String.class, int[].class, long[].class,
+            char[].class, byte[].class);
+        for (Class<?> c : all) {
+            int fields = 0;
+            for (Field f : c.getDeclaredFields()) {
+                boolean isConstant = Modifier.isFinal(f.getModifiers()) && constants.contains(f.getType());
+                hold(!Modifier.isStatic(f.getModifiers()) || isConstant, "static, but no constant: " + f);
+                fields += Modifier.isStatic(f.getModifiers()) ? 0 : 1;
+            }
+            hold(fields <= 20, "fields of " + c + ": " + fields);
+        }
     }
 
     private static void source() throws Exception {
@@ -98,7 +142,21 @@ public final class RulesTest {
             begins.add(m.start());
         }
         hold(begins.size() > 50, "methods found: " + begins.size());
-        hold(code.split("\\bclass ").length - 1 <= 12, "twelve classes");
+        for (int begin : begins) {
+            int lines = code.substring(begin, endOfMethod(code, begin)).split("\n").length;
+            hold(lines <= 60, "a method of " + lines + " lines at " + code.substring(begin, code.indexOf('{', begin)).trim());
+        }
+    }
+
+    private static int endOfMethod(String code, int begin) {
+        int open = 0;
+        for (int at = code.indexOf('{', begin); at < code.length(); at++) {
+            open += code.charAt(at) == '{' ? 1 : code.charAt(at) == '}' ? -1 : 0;
+            if (open == 0) {
+                return at;
+            }
+        }
+        return code.length();
     }
 
     private static void anyArguments() throws Exception {
